@@ -1,0 +1,39 @@
+/** Counts answers, prints those that are not due, and ends a test with exit code 1 if there was one. */
+final class Checks {
+    private final String name;
+    private int done;
+    private int wrong;
+
+    Checks(String name) {
+        this.name = name;
+    }
+
+    void due(String call, long got, long want) {
+        done++;
+        if (got != want) {
+            wrong++;
+            if (wrong <= 40) {
+                System.out.println(name + ": " + call + " answered " + got + ", due is " + want);
+            }
+        }
+    }
+
+    void yes(String call, boolean got) {
+        due(call, got ? 1 : 0, 1);
+    }
+
+    void no(String call, boolean got) {
+        due(call, got ? 1 : 0, 0);
+    }
+
+    boolean isFine() {
+        return wrong == 0;
+    }
+
+    void close() {
+        System.out.println(name + ": " + done + " answers, " + wrong + " not as due");
+        if (wrong != 0 || done == 0) {
+            System.exit(1);
+        }
+    }
+}
