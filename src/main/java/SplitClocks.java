@@ -52,7 +52,7 @@ public final class SplitClocks {
         past = new Past();
         row = new Bits();
         draft = new Bits();
-        reader = new Reader();
+        reader = new Reader(row);
         imageStands = false;
         plant();
     }
@@ -266,7 +266,7 @@ public final class SplitClocks {
 
     public int read() {
         int before = book.size();
-        int known = reader.scan(row, book.trees);
+        int known = reader.scan(book.trees);
         lastFault = reader.firstFault();
         if (lastFault == NONE) {
             book.make(Trees.ZERO, known, BY_READ, NONE, NONE);
@@ -358,8 +358,8 @@ public final class SplitClocks {
 
     private int draftOf(int s) {
         draft.cut(0);
-        Writer.share(book.trees, book.ownOf(s), draft);
-        Writer.known(book.trees, book.knownOf(s), draft);
+        Writer.shareFrom(book.trees, book.ownOf(s), draft, 0);
+        Writer.heightFrom(book.trees, book.knownOf(s), draft, 0);
         return draft.size();
     }
 
@@ -454,11 +454,11 @@ public final class SplitClocks {
 
         /** A number n has, as (n 0 0), two sides of 0. */
         int leftOf(int e) {
-            return isNumber(e) ? ZERO : e + 1;
+            return far.at(e) == 0 ? ZERO : e + 1;
         }
 
         int rightOf(int e) {
-            return isNumber(e) ? ZERO : far.at(e);
+            return far.at(e) == 0 ? ZERO : far.at(e);
         }
 
         /** A number behind all nodes; it gets sides by what is built behind it, turn() and close(). */
@@ -478,9 +478,9 @@ public final class SplitClocks {
             int l = leftOf(parent);
             int r = rightOf(parent);
             int least = Math.min(numberOf(l), numberOf(r));
-            setNumber(parent, numberOf(parent) + least);
-            setNumber(l, numberOf(l) - least);
-            setNumber(r, numberOf(r) - least);
+            number.put(parent, numberOf(parent) + least);
+            number.put(l, numberOf(l) - least);
+            number.put(r, numberOf(r) - least);
             if (isJust(l, 0) && isJust(r, 0)) {
                 far.put(parent, 0);
                 top = parent + 1;
@@ -688,6 +688,9 @@ public final class SplitClocks {
 
     /** What two trees show when they are held side by side. */
     private static final class Sight {
+        private static final long NOWHERE = 0;
+        private static final long ALL_OVER = -1;
+
         /** Whether a is above b at some point. */
         static boolean above(Trees t, int a, int b) {
             return aboveFrom(t, a, b, 0, 0);
@@ -703,25 +706,25 @@ public final class SplitClocks {
                 || aboveFrom(t, t.rightOf(a), t.rightOf(b), now, depth + 1);
         }
 
-        /** The first place where a is above b all over, with a digit 1 ahead of its digits; there is one. */
+        /** The first place where a is above b all over, with a digit 1 ahead of its digits; or ALL_OVER, NOWHERE. */
         static long firstAbove(Trees t, int a, int b) {
-            int high = a;
-            int low = b;
-            int lead = 0;
-            long marked = 1;
-            for (int n = 0; n < MOST_DIGITS && isBroken(t, high, low, lead); n++) {
-                lead += t.numberOf(high) - t.numberOf(low);
-                boolean left = aboveFrom(t, t.leftOf(high), t.leftOf(low), lead, n + 1);
-                high = left ? t.leftOf(high) : t.rightOf(high);
-                low = left ? t.leftOf(low) : t.rightOf(low);
-                marked = 2 * marked + (left ? 0 : 1);
-            }
-            return marked;
+            return seek(t, a, b, 0, 1, 0);
         }
 
-        /** Whether high, lifted by lead, is at some point not above low. */
-        private static boolean isBroken(Trees t, int high, int low, int lead) {
-            return aboveFrom(t, low, high, 1 - lead, 0);
+        private static long seek(Trees t, int a, int b, int lead, long marked, int depth) {
+            int now = lead + t.numberOf(a) - t.numberOf(b);
+            if (t.isNumber(a) && t.isNumber(b) || depth >= MOST_DIGITS) {
+                return now > 0 ? ALL_OVER : NOWHERE;
+            }
+            long left = seek(t, t.leftOf(a), t.leftOf(b), now, 2 * marked, depth + 1);
+            if (left != ALL_OVER && left != NOWHERE) {
+                return left;
+            }
+            long right = seek(t, t.rightOf(a), t.rightOf(b), now, 2 * marked + 1, depth + 1);
+            if (left == ALL_OVER) {
+                return right == ALL_OVER ? ALL_OVER : 2 * marked;
+            }
+            return right == ALL_OVER ? 2 * marked + 1 : right;
         }
 
         static boolean overlap(Trees t, int a, int b) {
@@ -1009,10 +1012,6 @@ public final class SplitClocks {
         private static final int FIRST_WIDTH = 2;
         private static final int LAST_WIDTH = 30;
 
-        static void share(Trees t, int share, Bits out) {
-            shareFrom(t, share, out, 0);
-        }
-
         private static void shareFrom(Trees t, int share, Bits out, int depth) {
             if (t.isNumber(share) || depth >= MOST_DIGITS) {
                 out.push(t.numberOf(share), 3);
@@ -1027,10 +1026,6 @@ public final class SplitClocks {
             if (right) {
                 shareFrom(t, t.rightOf(share), out, depth + 1);
             }
-        }
-
-        static void known(Trees t, int e, Bits out) {
-            heightFrom(t, e, out, 0);
         }
 
         private static void heightFrom(Trees t, int e, Bits out, int depth) {
@@ -1074,12 +1069,12 @@ public final class SplitClocks {
         private static final int FIRST_WIDTH = 2;
         private static final int LAST_WIDTH = 20;
         private static final int PARTED = 2;
-        private Bits from;
+        private final Bits from;
         private int next;
         private int faultAt;
 
-        Reader() {
-            from = new Bits();
+        Reader(Bits from) {
+            this.from = from;
             next = 0;
             faultAt = NONE;
         }
@@ -1089,8 +1084,7 @@ public final class SplitClocks {
         }
 
         /** Builds the height behind all nodes and tells where. */
-        int scan(Bits bits, Trees t) {
-            from = bits;
+        int scan(Trees t) {
             next = 0;
             faultAt = NONE;
             int start = t.top();
