@@ -40,6 +40,7 @@ public final class PromiseTest {
         readDeep();
         fault();
         imageAndBack();
+        imageOfMuch();
         count();
         fullOfStamps();
         fullOfNodes();
@@ -241,9 +242,11 @@ public final class PromiseTest {
         due("stamp(1, 0)", x.stamp(1, 0), 0);
         due("stamp(2, 0)", x.stamp(2, 0), 1);
         due("stamp(3, 0)", x.stamp(3, 0), 1);
-        due("stamp(3, 3)", x.stamp(3, 3), 1);
-        due("stamp(3, 4)", x.stamp(3, 4), 1);
-        due("stamp(3, 5)", x.stamp(3, 5), NONE);
+        for (int s = 2; s <= 3; s++) {
+            due("stamp(" + s + ", 3)", x.stamp(s, 3), 1);
+            due("stamp(" + s + ", 4)", x.stamp(s, 4), 1);
+            due("stamp(" + s + ", 5)", x.stamp(s, 5), NONE);
+        }
         due("fork(2)", x.fork(2), 4);
         shaped(x, 4, "[[1 0] 0] 1");
         shaped(x, 5, "[[0 1] 0] 1");
@@ -336,12 +339,13 @@ public final class PromiseTest {
         x = new SplitClocks();
         x.fork(0);
         x.event(1);
-        x.join(3, 2);
-        shaped(x, 4, "1 (0 1 0)");
-        x.event(4);
-        shaped(x, 5, "1 1");
+        x.event(3);
+        x.join(4, 2);
+        shaped(x, 5, "1 (0 2 0)");
         x.event(5);
         shaped(x, 6, "1 2");
+        x.event(6);
+        shaped(x, 7, "1 3");
         eventFillsParts();
     }
 
@@ -425,6 +429,18 @@ public final class PromiseTest {
         shaped(x, 10, "[[1 0] [0 [0 1]]] (0 0 (0 0 (0 0 1)))");
         x.event(10);
         shaped(x, 11, "[[1 0] [0 [0 1]]] (0 0 (0 0 (0 0 2)))");
+        // where all sides are there, each level costs
+        x = new SplitClocks();
+        x.fork(0);
+        x.fork(2);
+        x.fork(4);
+        x.event(6);
+        x.fork(1);
+        x.event(8);
+        x.join(10, 7);
+        shaped(x, 11, "[[1 0] [0 [0 1]]] (0 (0 1 0) (0 0 (0 0 1)))");
+        x.event(11);
+        shaped(x, 12, "[[1 0] [0 [0 1]]] (0 (0 2 0) (0 0 (0 0 1)))");
         // a number in a known tree grows by (e 0 0), and folds
         x = new SplitClocks();
         x.event(0);
@@ -583,6 +599,17 @@ public final class PromiseTest {
         CHECKS.yes("lose(2)", x.lose(2));
         due("count(2)", x.count(2), 2);
         due("count(1)", x.count(1), 0);
+        x = new SplitClocks();
+        x.peek(0);
+        CHECKS.yes("lose(0)", x.lose(0));
+        due("count(2)", x.count(2), 1);
+        due("home(1, 0)", x.home(1, 0), 2);
+        due("event(2)", x.event(2), 3);
+        CHECKS.yes("undo()", x.undo());
+        CHECKS.yes("undo()", x.undo());
+        due("stamp(0, 9)", x.stamp(0, 9), 1);
+        CHECKS.yes("undo()", x.undo());
+        due("stamp(0, 0)", x.stamp(0, 0), 1);
     }
 
     private static void home() {
@@ -1309,6 +1336,42 @@ public final class PromiseTest {
         CHECKS.yes("back() to the latest", x.back());
         due("count(0)", x.count(0), 6);
         due("count(4)", x.count(4), 2 + 4 + 4 + 6 + 6 + 6);
+    }
+
+    /** An image of many stamps and deep trees; all that came between is gone, and acts go on from there. */
+    private static void imageOfMuch() {
+        SplitClocks x = new SplitClocks();
+        int s = x.event(deep(x, 40));
+        int stamps = x.count(0);
+        int nodes = x.count(4);
+        String first = packed(x, s);
+        x.image();
+        x.seed();
+        s = 0;
+        for (int k = 0; k < 50; k++) {
+            s = x.send(s);
+        }
+        x.back();
+        s = stamps - 1;
+        due("count(0)", x.count(0), stamps);
+        due("count(4)", x.count(4), nodes);
+        text("its bits", packed(x, s), first);
+        for (int k = 1; k < stamps - 1; k++) {
+            due("stamp(" + k + ", 4)", x.stamp(k, 4), k <= 2 ? 0 : (k - 1) / 2 * 2 - 1);
+            due("stamp(" + k + ", 5)", x.stamp(k, 5), NONE);
+            due("stamp(" + k + ", 3)", x.stamp(k, 3), 1);
+        }
+        due("event", x.event(s), stamps);
+        due("height", heightOrThrown(x, stamps, 0, 0), 2);
+        due("event", x.event(2), stamps + 1);
+        x.undo();
+        x.undo();
+        due("fork", x.fork(s), stamps);
+        text("its bits", packed(x, s), first);
+        shaped(x, 2, "[0 1] 0");
+        due("take", x.take(stamps, stamps + 1), stamps + 3);
+        due("height", heightOrThrown(x, stamps + 3, 0, 40), 2);
+        due("unseen", x.unseen(stamps + 3, s), 1);
     }
 
     private static void count() {
