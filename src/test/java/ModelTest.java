@@ -26,8 +26,9 @@ public final class ModelTest {
 
     public static void main(String[] args) {
         Checks checks = new Checks("model");
+        int runs = args.length > 0 ? Integer.parseInt(args[0]) : RUNS_A_MODE;
         for (int mode = 0; mode < WEIGHTS.length && checks.isFine(); mode++) {
-            for (int run = 0; run < RUNS_A_MODE && checks.isFine(); run++) {
+            for (int run = 0; run < runs && checks.isFine(); run++) {
                 new ModelTest(checks, mode, run).go();
             }
         }

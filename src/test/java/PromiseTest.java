@@ -44,6 +44,7 @@ public final class PromiseTest {
         count();
         fullOfStamps();
         fullOfNodes();
+        leavesNothing();
         knownExample();
         CHECKS.close();
     }
@@ -1475,6 +1476,30 @@ public final class PromiseTest {
         due("send needs more", x.send(2), NONE);
         due("nothing is left of it", x.count(4), 19998);
         due("it lives", x.stamp(2, 0), 1);
+    }
+
+    /** What is undone or refused leaves nothing behind, however often: the last act finds as much room as the first. */
+    private static void leavesNothing() {
+        SplitClocks x = new SplitClocks();
+        int s = deep(x, 60);
+        int nodes = x.count(4);
+        for (int k = 0; k < 200; k++) {
+            due("event", x.event(s), s + 2);
+            CHECKS.yes("undo()", x.undo());
+        }
+        due("count(4)", x.count(4), nodes);
+        due("event", x.event(s), s + 2);
+        due("height", heightOrThrown(x, s + 2, 0, 60), 1);
+        due("nodes", x.stamp(s + 2, 2), 121);
+        String bits = "000" + "0001".repeat(61);
+        load(x, bits);
+        for (int k = 0; k < 400; k++) {
+            due("read()", x.read(), NONE);
+        }
+        due("fault()", x.fault(), 247);
+        due("event", x.event(s + 2), s + 3);
+        due("height", heightOrThrown(x, s + 3, 0, 60), 2);
+        due("nodes", x.stamp(s + 3, 2), 121);
     }
 
     /** A run that is known from elsewhere, through fork, event, join to the fold of all. */
