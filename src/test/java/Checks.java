@@ -1,11 +1,19 @@
 /** Counts answers, prints those that are not due, and ends a test with exit code 1 if there was one. */
 final class Checks {
-    private final String name;
+    private String name;
     private int done;
     private int wrong;
 
     Checks(String name) {
         this.name = name;
+    }
+
+    void name(String now) {
+        name = now;
+    }
+
+    int done() {
+        return done;
     }
 
     void due(String call, long got, long want) {

@@ -1,12 +1,7 @@
-import java.util.NoSuchElementException;
-
 /** Each promise of the document, with answers worked out by hand from its words. */
-public final class PromiseTest {
-    private static final int NONE = SplitClocks.NONE;
-    private static final int THROWN = -77;
-    private static final Checks CHECKS = new Checks("promises");
-
+public final class PromiseTest extends Runs {
     public static void main(String[] args) {
+        CHECKS.name("promises");
         newObject();
         seed();
         forkSplits();
@@ -47,139 +42,6 @@ public final class PromiseTest {
         leavesNothing();
         knownExample();
         CHECKS.close();
-    }
-
-    private static void due(String call, long got, long want) {
-        CHECKS.due(call, got, want);
-    }
-
-    private static void text(String what, String got, String want) {
-        CHECKS.yes(what + " is " + got + ", due is " + want, got.equals(want));
-    }
-
-    /** The row as a text, taken by bit(). */
-    private static String row(SplitClocks x) {
-        StringBuilder s = new StringBuilder();
-        for (int i = 0; i < x.count(5); i++) {
-            s.append(x.bit(i));
-        }
-        return s.toString();
-    }
-
-    private static String packed(SplitClocks x, int s) {
-        return x.pack(s) == NONE ? "none" : row(x);
-    }
-
-    private static int at;
-
-    private static String shareText(String bits) {
-        String head = bits.substring(at, at + 2);
-        at += 2;
-        switch (head) {
-            case "00":
-                at++;
-                return bits.substring(at - 1, at);
-            case "01":
-                return "[0 " + shareText(bits) + "]";
-            case "10":
-                return "[" + shareText(bits) + " 0]";
-            default:
-                String l = shareText(bits);
-                return "[" + l + " " + shareText(bits) + "]";
-        }
-    }
-
-    private static int number(String bits) {
-        int base = 0;
-        int b = 2;
-        while (bits.charAt(at++) == '1') {
-            base += 1 << b;
-            b++;
-        }
-        at += b;
-        return base + Integer.parseInt(bits.substring(at - b, at), 2);
-    }
-
-    private static String heightText(String bits) {
-        if (bits.charAt(at++) == '1') {
-            return Integer.toString(number(bits));
-        }
-        int n = bits.charAt(at++) == '1' ? number(bits) : 0;
-        String form = bits.substring(at, at + 2);
-        at += 2;
-        String l = form.equals("01") ? "0" : heightText(bits);
-        String r = form.equals("10") ? "0" : heightText(bits);
-        return "(" + n + " " + l + " " + r + ")";
-    }
-
-    /** A stamp in the document's own writing, by way of its bits. */
-    private static String shape(SplitClocks x, int s) {
-        String bits = packed(x, s);
-        at = 0;
-        String share = shareText(bits);
-        return share + " " + heightText(bits);
-    }
-
-    private static void shaped(SplitClocks x, int s, String want) {
-        text("stamp " + s, shape(x, s), want);
-    }
-
-    private static void load(SplitClocks x, String bits) {
-        x.end(0);
-        for (int i = 0; i < bits.length(); i++) {
-            x.add(bits.charAt(i) - '0', 1);
-        }
-    }
-
-    private static int readOf(SplitClocks x, String bits) {
-        load(x, bits);
-        return x.read();
-    }
-
-    private static void faulty(String bits, int want) {
-        SplitClocks x = new SplitClocks();
-        due("read() of " + bits, readOf(x, bits), NONE);
-        due("fault() of " + bits, x.fault(), want);
-        due("count(0) behind a fault", x.count(0), 1);
-        due("count(4) behind a fault", x.count(4), 2);
-        due("count(6) behind a fault", x.count(6), 0);
-        due("the row stays", x.count(5), bits.length());
-    }
-
-    private static long heightOrThrown(SplitClocks x, int s, long place, int n) {
-        try {
-            return x.height(s, place, n);
-        } catch (NoSuchElementException e) {
-            return THROWN;
-        }
-    }
-
-    private static long ownsOrThrown(SplitClocks x, int s, long place, int n) {
-        try {
-            return x.owns(s, place, n) ? 1 : 0;
-        } catch (NoSuchElementException e) {
-            return THROWN;
-        }
-    }
-
-    /** Forks the leftmost share so often; the stamp that has what is left of it. */
-    private static int deep(SplitClocks x, int times) {
-        int s = x.count(0) - 1;
-        for (int k = 0; k < times; k++) {
-            s = x.fork(s);
-        }
-        return s;
-    }
-
-    /** Stamps 7 and 8 own what lies round the middle, and what lies at both ends. */
-    private static SplitClocks middle() {
-        SplitClocks x = new SplitClocks();
-        x.fork(0);
-        x.fork(1);
-        x.fork(2);
-        x.join(4, 5);
-        x.join(3, 6);
-        return x;
     }
 
     private static void isNew(SplitClocks x) {
@@ -890,11 +752,6 @@ public final class PromiseTest {
         due("stamp(10, 5)", x.stamp(10, 5), NONE);
         due("stamp(10, 10)", x.stamp(10, 10), NONE);
         due("stamp(10, 8)", x.stamp(10, 8), 0);
-    }
-
-    private static void isTold(SplitClocks x, long place, int digits) {
-        due("place()", x.place(), place);
-        due("digits()", x.digits(), digits);
     }
 
     private static void witness() {
