@@ -476,6 +476,34 @@ final class ActEdges extends Runs {
         yes("image() of a new object", new SplitClocks().image());
     }
 
+    private static String allButActs(SplitClocks x) {
+        return Twins.all(x).replaceAll("^(counts( [0-9]+){6}) [0-9]+", "$1");
+    }
+
+    /** Between image() and back() each number comes to stand for another stamp. */
+    private static void backFromOtherStamps() {
+        SplitClocks x = used();
+        x.join(4, x.peek(4));
+        x.lose(6);
+        x.image();
+        String before = allButActs(x);
+        x.end(0);
+        x.seed();
+        for (int s = 0; x.count(0) < 40; s = x.count(0) - 2) {
+            x.send(s);
+        }
+        yes("back()", x.back());
+        load(x, row(used()));
+        x.read();
+        x.witness(3, 4, 1);
+        text("all", allButActs(x), before);
+        due("the next stamp's number", x.fork(x.home(5, 6)), 8);
+        due("nodes", x.stamp(8, 1), 5);
+        yes("undo()", x.undo());
+        yes("undo()", x.undo());
+        text("all", allButActs(x), before);
+    }
+
     private static void back() {
         says(29, "All is as it was at the latest image(): true;");
         SplitClocks x = new SplitClocks();
@@ -488,25 +516,26 @@ final class ActEdges extends Runs {
         x.undo();
         x.image();
         // the acts that led here are no more to be undone behind back(); all else is the same
-        String before = Twins.all(x).replaceAll("^(counts( [0-9]+){6}) [0-9]+", "$1");
+        String before = allButActs(x);
         x.undo();
         x.undo();
         x.event(0);
         x.event(1);
         x.lose(2);
         yes("back()", x.back());
-        text("all", Twins.all(x).replaceAll("^(counts( [0-9]+){6}) [0-9]+", "$1"), before);
+        text("all", allButActs(x), before);
         due("acts", x.count(6), 0);
         due("what lived lives", x.event(3), 4);
         due("and what was spent is", x.event(1), NONE);
         yes("back() again", x.back());
-        text("all", Twins.all(x).replaceAll("^(counts( [0-9]+){6}) [0-9]+", "$1"), before);
+        text("all", allButActs(x), before);
         x.lose(2);
         x.image();
         x.home(3, 2);
         yes("back() to the latest one", x.back());
         due("lost", x.count(2), 1);
         due("count(0)", x.count(0), 4);
+        backFromOtherStamps();
         says(29, "false without one.");
         x = new SplitClocks();
         no("of a new object", x.back());

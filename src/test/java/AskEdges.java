@@ -150,6 +150,14 @@ final class AskEdges extends Runs {
         yes("at 60 digits", x.meets(119, 1));
         yes("at 60 digits", x.meets(117, 120));
         no("at 60 digits", x.meets(119, 118));
+        x = new SplitClocks();
+        for (int k = 0; k < 60; k++) {
+            x.fork(2 * k);
+        }
+        no("neighbours at the far end", x.meets(119, 120));
+        yes("at the far end", x.meets(120, 118));
+        yes("at the far end", x.meets(2, 119));
+        no("at the far end", x.meets(117, 120));
     }
 
     private static void height() {
@@ -597,6 +605,9 @@ final class AskEdges extends Runs {
         due("count(1)", x.count(1), 1);
         says(30, "2: lost,");
         due("count(2)", x.count(2), 1);
+        SplitClocks y = new SplitClocks();
+        y.lose(0);
+        due("count(2) of the seed alone", y.count(2), 1);
         says(30, "3: EVENTS,");
         due("count(3)", x.count(3), 1);
         says(30, "4: NODES in all,");

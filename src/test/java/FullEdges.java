@@ -292,12 +292,52 @@ final class FullEdges extends Runs {
         yes("undo() makes room", x.undo());
         due("peek()", x.peek(LEFT), x.count(0) - 1);
         due("NODES of spent and lost ones count too", x.count(4), MOST_NODES);
+        bigTrees();
         // a big row that is good, but too big
         Twins.refused("read() of 240 nodes", () -> {
             SplitClocks y = withNodes(MOST_NODES - 238);
             load(y, BIG);
             return y;
         }, y -> y.read(), NONE);
+    }
+
+    /** 231 nodes: two ways of 55 levels behind a place of 4 digits. */
+    private static String bush(int place) {
+        StringBuilder s = new StringBuilder("000");
+        for (int k = 3; k >= 0; k--) {
+            s.append((place >> k & 1) == 1 ? "0001" : "0010");
+        }
+        return s + "0000" + "0001".repeat(55) + "1001" + "0001".repeat(55) + "1001";
+    }
+
+    /** Sixteen bushes come together two by two: the last stamp, 31, has all of them. */
+    private static SplitClocks bushes() {
+        SplitClocks x = new SplitClocks();
+        for (int place = 0; place < 16; place++) {
+            readOf(x, bush(place));
+        }
+        for (int s = 1; s < 31; s += 2) {
+            x.join(s, s + 1);
+        }
+        return x;
+    }
+
+    private static void bigTrees() {
+        SplitClocks x = bushes();
+        due("stamps", x.count(0), 32);
+        int nodes = 16 * 223 + 15;
+        due("nodes of all bushes", x.stamp(31, 2), nodes);
+        for (long place = 0; place < 32; place++) {
+            long end = (place + 1 << 55) - 1;
+            due("height at the end of " + place, heightOrThrown(x, 31, end, 60), 1);
+            due("height ahead of it", heightOrThrown(x, 31, end - 1, 60), 0);
+        }
+        due("there is no room for all of it again", x.count(4) + nodes > MOST_NODES ? 1 : 0, 1);
+        Twins.refused("join of all with the seed", FullEdges::bushes, y -> y.join(0, 31), NONE);
+        Twins.refused("join of all with a part", FullEdges::bushes, y -> y.join(31, 30), NONE);
+        Twins.refused("take of all", FullEdges::bushes, y -> y.take(0, 31), NONE);
+        Twins.refused("peek of all", FullEdges::bushes, y -> y.peek(31), NONE);
+        due("a part of it has room", x.join(0, 29), 32);
     }
 
     private static void nodesFor(Act act) {

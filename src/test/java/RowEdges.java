@@ -66,6 +66,22 @@ final class RowEdges extends Runs {
         bitsAre("[1 [1 0]]", "0", "11" + ALL + "10" + ALL + ZERO);
         bitsAre("[[0 1] 1]", "0", "11" + "01" + ALL + ALL + ZERO);
         bitsAre("[[0 1] [1 0]]", "0", "11" + "01" + ALL + "10" + ALL + ZERO);
+        bitsAtSixtyDigits();
+    }
+
+    private static void bitsAtSixtyDigits() {
+        for (int right = 0; right <= 1; right++) {
+            SplitClocks x = new SplitClocks();
+            int s = 0;
+            for (int k = 0; k < 60; k++) {
+                s = x.fork(s) + right;
+            }
+            String share = (right == 1 ? "01" : "10").repeat(60) + ALL;
+            text("bits of 60 digits", packed(x, s), share + ZERO);
+            s = x.event(s);
+            text("bits of 60 digits", packed(x, s), share + (right == 1 ? "0001" : "0010").repeat(60) + ONE);
+            due("how many", x.stamp(s, 6), 123 + 244);
+        }
     }
 
     private static void bitsOfHeights() {

@@ -449,6 +449,9 @@ final class TermEdges extends Runs {
         eventMakes("1", "1", "2");
         eventMakes("[1 0]", "(0 0 1)", "1");
         eventMakes("[1 0]", "1", "(1 1 0)");
+        // filled it is another one, though it has as many nodes
+        eventMakes("[1 0]", "(0 0 (2 0 1))", "(2 0 (0 0 1))");
+        eventMakes("[0 1]", "(0 (2 0 1) 0)", "(2 (0 0 1) 0)");
         eventMakes("[0 [0 1]]", "(2 (0 0 1) (0 3 0))", "(2 (0 0 1) 3)");
     }
 
@@ -483,6 +486,30 @@ final class TermEdges extends Runs {
         eventMakes("[[1 0] 0]", "(0 (0 0 1) 1)", "1");
         eventMakes("[0 [0 1]]", "(2 1 (0 1 0))", "3");
         eventMakes("[[0 1] [0 1]]", "(0 (0 2 0) (1 2 0))", "(2 0 1)");
+        filledAtSixtyDigits();
+    }
+
+    /** At 60 digits, on the left and on the right: one place rises to what is known of the other half beside it. */
+    private static void filledAtSixtyDigits() {
+        for (int right = 0; right <= 1; right++) {
+            SplitClocks x = new SplitClocks();
+            int left = 0;
+            int s = 0;
+            for (int k = 0; k < 60; k++) {
+                left = x.fork(s);
+                s = left + right;
+            }
+            long here = right == 1 ? (1L << 60) - 1 : 0;
+            int beside = x.event(x.event(2 * left + 1 - s));
+            int known = x.join(s, x.peek(beside));
+            due("nodes ahead of it", x.stamp(known, 2), 121);
+            due("height ahead of it", heightOrThrown(x, known, here, 60), 0);
+            int made = x.event(known);
+            due("height", heightOrThrown(x, made, here, 60), 2);
+            due("height beside", heightOrThrown(x, made, here ^ 1, 60), 2);
+            due("height farther", heightOrThrown(x, made, here ^ 2, 60), 0);
+            due("nodes of 59 digits", x.stamp(made, 2), 119);
+        }
     }
 
     private static void grown() {
