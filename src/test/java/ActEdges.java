@@ -86,6 +86,7 @@ final class ActEdges extends Runs {
         Twins.alike("seed() again", x, y);
         due("fork", x.fork(0), 1);
         due("stamps of before do not come again", x.stamp(3, 0), NONE);
+        seedLeavesNoNodes();
         says(2, "(The image stays.)");
         x = used();
         x.image();
@@ -103,6 +104,25 @@ final class ActEdges extends Runs {
         x = new SplitClocks();
         x.seed();
         no("seed() makes none", x.back());
+    }
+
+    /** All nodes are used up four times over, within 512 calls: each time there is room for as many. */
+    private static void seedLeavesNoNodes() {
+        SplitClocks x = new SplitClocks();
+        for (int round = 0; round < 4; round++) {
+            x.seed();
+            int s = x.event(deep(x, 60));
+            int calls = 61;
+            for (int made = s; made != NONE; calls++) {
+                s = made;
+                made = x.event(s);
+            }
+            due("calls till all is full", calls, 112);
+            due("stamps", x.count(0), 172);
+            due("height", heightOrThrown(x, s, 0, 60), 51);
+            due("height beside", heightOrThrown(x, s, 1, 60), 0);
+            due("nodes", x.stamp(s, 2), 121);
+        }
     }
 
     private static void fork() {

@@ -88,15 +88,26 @@ abstract class Runs {
         return share + " " + heightText(bits);
     }
 
+    private static int nodesIn(String tree) {
+        return 1 + 2 * (int) tree.chars().filter(c -> c == '[' || c == '(').count();
+    }
+
+    /** The stamp is this one; and what is told of its nodes and bits is what this one has, however it came about. */
     static void shaped(SplitClocks x, int s, String want) {
         text("stamp " + s, shape(x, s), want);
+        int mid = sideEnd(want, 0);
+        String share = want.substring(0, mid);
+        String height = want.substring(mid + 1);
+        due("NODES of " + share, x.stamp(s, 1), nodesIn(share));
+        due("NODES of " + height, x.stamp(s, 2), nodesIn(height));
+        due("BITS of " + want, x.stamp(s, 6), shareBits(share).length() + heightBits(height).length());
     }
 
     /** Where the first of two sides ends that stand, parted by a blank, in brackets from start on. */
     private static int sideEnd(String s, int start) {
         int open = 0;
         int i = start;
-        while (open > 0 || s.charAt(i) != ' ' && s.charAt(i) != ')' && s.charAt(i) != ']') {
+        while (i < s.length() && (open > 0 || " )]".indexOf(s.charAt(i)) < 0)) {
             char c = s.charAt(i);
             open += c == '(' || c == '[' ? 1 : c == ')' || c == ']' ? -1 : 0;
             i++;

@@ -247,6 +247,9 @@ final class TermEdges extends Runs {
         }
         SplitClocks x = new SplitClocks();
         int s = x.event(deep(x, 60));
+        // what folded on the left leaves none of its nodes ahead of the right side
+        joined("(0 (0 1 0) (0 0 2))", "(0 (0 0 1) 0)", "(0 1 (0 0 2))");
+        joined("(0 (0 (0 1 0) 1) (0 (0 0 3) 1))", "(0 (0 (0 0 1) 0) 0)", "(0 1 (0 (0 0 3) 1))");
         due("NODES of a share at 60 digits", x.stamp(s, 1), 121);
         due("NODES of a height at 60 digits", x.stamp(s, 2), 121);
     }
@@ -439,7 +442,7 @@ final class TermEdges extends Runs {
         int next = x.count(0);
         int made = x.event(s);
         due("event of " + share + " " + known, made, next);
-        text("event of " + share + " " + known, shape(x, made), share + " " + want);
+        shaped(x, made, share + " " + want);
     }
 
     private static void eventFillsOrGrows() {
