@@ -113,7 +113,7 @@ final class ActEdges extends Runs {
             x.seed();
             int s = x.event(deep(x, 60));
             int calls = 61;
-            for (int made = s; made != NONE; calls++) {
+            for (int made = s; calls < MOST_TRIES && made != NONE; calls++) {
                 s = made;
                 made = x.event(s);
             }
@@ -232,7 +232,7 @@ final class ActEdges extends Runs {
         x = new SplitClocks();
         s = x.event(deep(x, 60));
         int seen = x.peek(s);
-        while (x.count(4) + 122 + 242 <= 20000) {
+        for (int k = 0; k < MOST_TRIES && x.count(4) + 122 + 242 <= 20000; k++) {
             x.peek(seen);
         }
         int nodes = x.count(4);
@@ -284,7 +284,7 @@ final class ActEdges extends Runs {
         x = new SplitClocks();
         s = x.event(deep(x, 60));
         int seen = x.peek(s);
-        while (x.count(4) + 122 + 242 <= 20000) {
+        for (int k = 0; k < MOST_TRIES && x.count(4) + 122 + 242 <= 20000; k++) {
             x.peek(seen);
         }
         int nodes = x.count(4);
@@ -509,8 +509,8 @@ final class ActEdges extends Runs {
         String before = allButActs(x);
         x.end(0);
         x.seed();
-        for (int s = 0; x.count(0) < 40; s = x.count(0) - 2) {
-            x.send(s);
+        for (int k = 0, s = 0; k < 20; k++) {
+            s = x.send(s);
         }
         yes("back()", x.back());
         load(x, row(used()));

@@ -118,7 +118,7 @@ final class AskEdges extends Runs {
         x.lose(s);
         int home = x.home(x.count(0) - 1, s);
         due("by home()", x.unseen(home, 0), NONE);
-        while (x.count(0) > 2) {
+        for (int k = 0; k < MOST_TRIES && x.count(0) > 2; k++) {
             x.undo();
         }
         due("undone down to the row", x.event(0), 2);

@@ -181,7 +181,7 @@ final class FullEdges extends Runs {
         none("read() with the same fault again", x -> x.read());
         Supplier<SplitClocks> bitsAreFull = () -> {
             SplitClocks x = busy();
-            while (x.count(5) <= 600 - 37) {
+            for (int k = 0; k < MOST_TRIES && x.count(5) <= 600 - 37; k++) {
                 x.add(5, 37);
             }
             return x;
@@ -227,7 +227,7 @@ final class FullEdges extends Runs {
     private static SplitClocks withStamps(int stamps) {
         SplitClocks x = actors();
         int s = 6;
-        while (x.count(0) + 2 <= stamps) {
+        for (int k = 0; k < MOST_TRIES && x.count(0) + 2 <= stamps; k++) {
             s = x.send(s);
         }
         if (x.count(0) < stamps) {
@@ -268,10 +268,10 @@ final class FullEdges extends Runs {
     private static SplitClocks withNodes(int nodes) {
         SplitClocks x = actors();
         int big = readOf(x, BIG);
-        while (x.count(4) + 240 <= nodes) {
+        for (int k = 0; k < MOST_TRIES && x.count(4) + 240 <= nodes; k++) {
             x.peek(big);
         }
-        while (x.count(4) < nodes) {
+        for (int k = 0; k < MOST_TRIES && x.count(4) < nodes; k++) {
             x.peek(LEFT);
         }
         load(x, "0001000");

@@ -1296,7 +1296,7 @@ public final class PromiseTest extends Runs {
         SplitClocks x = new SplitClocks();
         int s = x.event(deep(x, 60));
         int peeked = x.peek(s);
-        while (x.count(4) + 122 <= 20000) {
+        for (int k = 0; k < MOST_TRIES && x.count(4) + 122 <= 20000; k++) {
             due("peek of 122 nodes", x.peek(peeked), x.count(0) - 1);
         }
         int stamps = x.count(0);
@@ -1318,7 +1318,7 @@ public final class PromiseTest extends Runs {
         due("count(4)", x.count(4), nodes);
         due("count(6)", x.count(6), acts);
         due("it lives", x.stamp(s, 0), 1);
-        while (x.count(4) < 20000) {
+        for (int k = 0; k < MOST_TRIES && x.count(4) < 20000; k++) {
             due("peek of 2 nodes", x.peek(2), x.count(0) - 1);
         }
         due("just full", x.count(4), 20000);

@@ -4,6 +4,8 @@ import java.util.NoSuchElementException;
 abstract class Runs {
     static final int NONE = SplitClocks.NONE;
     static final int THROWN = -77;
+    /** More than any run needs: a loop that waits for the class ends even if the class never gets there. */
+    static final int MOST_TRIES = 1200;
     static final Checks CHECKS = new Checks("runs");
 
     static void due(String call, long got, long want) {
@@ -25,7 +27,7 @@ abstract class Runs {
     /** The row as a text, taken by bit(). */
     static String row(SplitClocks x) {
         StringBuilder s = new StringBuilder();
-        for (int i = 0; i < x.count(5); i++) {
+        for (int i = 0; i < Math.min(x.count(5), MOST_TRIES); i++) {
             s.append(x.bit(i));
         }
         return s.toString();
@@ -84,8 +86,12 @@ abstract class Runs {
             return bits;
         }
         at = 0;
-        String share = shareText(bits);
-        return share + " " + heightText(bits);
+        try {
+            String share = shareText(bits);
+            return share + " " + heightText(bits);
+        } catch (StringIndexOutOfBoundsException e) {
+            return "no stamp: " + bits;
+        }
     }
 
     private static int nodesIn(String tree) {

@@ -11,7 +11,7 @@ final class Twins extends Runs {
         StringBuilder s = new StringBuilder(counts(x));
         s.append(" fault ").append(x.fault()).append(" told ").append(x.place()).append('/').append(x.digits());
         s.append(" row ").append(row(x));
-        for (int k = 0; k < x.count(0); k++) {
+        for (int k = 0; k < Math.min(x.count(0), MOST_TRIES); k++) {
             s.append("\nstamp ").append(k).append(':');
             for (int what = 0; what <= 10; what++) {
                 s.append(' ').append(x.stamp(k, what));
