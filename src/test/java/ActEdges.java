@@ -4,6 +4,7 @@ final class ActEdges extends Runs {
 
     static void run(Words w) {
         words = w;
+        whatItIs();
         calls512();
         newObject();
         seed();
@@ -25,8 +26,57 @@ final class ActEdges extends Runs {
         words.says("Promise " + promise, quote);
     }
 
+    private static void first(String quote) {
+        words.says("What it is", quote);
+    }
+
+    /** One run through the document's first line. */
+    private static void whatItIs() {
+        first("Split clocks: who knew what when, among parties that come, part in two, melt and leave, with no list of all:");
+        SplitClocks x = new SplitClocks();
+        due("one comes and parts in two", x.fork(0), 1);
+        due("the left one knows something", x.event(1), 3);
+        due("the right one does not", x.relation(2, 3), 1);
+        due("both melt", x.join(2, 3), 4);
+        due("what came of them knows it", x.relation(3, 4), 0);
+        yes("it leaves", x.lose(4));
+        due("nobody is left", x.count(1), 0);
+        first("stamps of a share of a line and a height over it, kept in the form of fewest nodes,");
+        shaped(x, 3, "[1 0] (0 1 0)");
+        shaped(x, 4, "1 (0 1 0)");
+        x.seed();
+        x.fork(0);
+        x.event(1);
+        x.event(2);
+        due("two stamps of two sides melt to two nodes", x.join(3, 4), 5);
+        shaped(x, 5, "1 1");
+        first("compared exactly,");
+        int low = readOf(x, "000" + "0001".repeat(59) + "0010" + "1001");
+        int high = readOf(x, "000" + "0001".repeat(59) + "0001" + "1001");
+        int both = readOf(x, "000" + "0001".repeat(59) + "1001");
+        due("heights that differ at the last two places alone", x.relation(low, high), 3);
+        due("at the last one alone", x.relation(low, both), 1);
+        due("at the one ahead of it alone", x.relation(both, high), 2);
+        first("packed to bits and read back, with witnesses,");
+        due("packed", x.pack(low), 3 + 4 * 60 + 4);
+        due("read back", x.relation(x.read(), low), 0);
+        yes("a witness", x.witness(high, low, 0));
+        isTold(x, (1L << 60) - 1, 60);
+        first("lost shares brought home, acts undone, images.");
+        x.fork(5);
+        int left = x.count(0) - 2;
+        x.lose(left);
+        due("brought home", x.home(left + 1, left), left + 2);
+        yes("undone", x.undo());
+        due("it is lost again", x.stamp(left, 9), 1);
+        yes("an image", x.image());
+        x.seed();
+        yes("back", x.back());
+        due("it is lost still", x.stamp(left, 9), 1);
+    }
+
     private static void calls512() {
-        words.says("What it is", "An object is used for at most 512 calls after it has been made; what later calls answer is free.");
+        first("An object is used for at most 512 calls after it has been made; what later calls answer is free.");
         SplitClocks x = new SplitClocks();
         for (int k = 0; k < 510; k++) {
             due("event, call " + (k + 1), x.event(k), k + 1);

@@ -73,12 +73,12 @@ final class Words {
         doneBefore = checks.done();
     }
 
-    /** All words of the terms, of what stands behind them and of the promises are quoted. */
+    /** All words of what it is, of the terms, of what stands behind them and of the promises are quoted. */
     void close() {
         endQuote();
         checks.name("words");
         for (Map.Entry<String, StringBuilder> e : sections.entrySet()) {
-            if (e.getKey().matches("(Term|Promise) [0-9]+|" + BEHIND)) {
+            if (e.getKey().matches("What it is|(Term|Promise) [0-9]+|" + BEHIND)) {
                 allQuoted(e.getKey(), e.getValue(), quoted.get(e.getKey()));
             }
         }
