@@ -488,6 +488,14 @@ final class ActEdges extends Runs {
     private static void undoOfEach() {
         says(11, "is undone: its stamps are gone, what it SPENT LIVES, what it lost, brought home is as before: true;");
         SplitClocks x = new SplitClocks();
+        x.event(0);
+        due("an event", x.stamp(1, 10), 1);
+        due("an event", x.unseen(1, 0), 1);
+        x.undo();
+        due("what is gone is in no history", x.stamp(0, 10), 0);
+        due("nor unseen", x.unseen(0, 0), 0);
+        due("nor counted", x.count(3), 0);
+        x = new SplitClocks();
         x.fork(0);
         x.event(1);
         x.peek(3);
@@ -574,6 +582,31 @@ final class ActEdges extends Runs {
         text("all", allButActs(x), before);
     }
 
+    /** The smallest image: one stamp, that acts spent behind it. */
+    private static void backToTheSeed() {
+        SplitClocks x = new SplitClocks();
+        x.image();
+        x.fork(0);
+        x.lose(1);
+        x.event(2);
+        yes("back() to a new object", x.back());
+        Twins.alikeTillTheFirst("back() to a new object", x, imageOfNew());
+        due("it lives", x.stamp(0, 0), 1);
+        due("fork", x.fork(0), 1);
+        yes("back() again", x.back());
+        yes("lose", x.lose(0));
+        yes("back() from its loss", x.back());
+        due("it is not lost", x.stamp(0, 9), 0);
+        due("event", x.event(0), 1);
+        shaped(x, 1, "1 1");
+    }
+
+    private static SplitClocks imageOfNew() {
+        SplitClocks x = new SplitClocks();
+        x.image();
+        return x;
+    }
+
     private static void back() {
         says(29, "All is as it was at the latest image(): true;");
         SplitClocks x = new SplitClocks();
@@ -606,6 +639,7 @@ final class ActEdges extends Runs {
         due("lost", x.count(2), 1);
         due("count(0)", x.count(0), 4);
         backFromOtherStamps();
+        backToTheSeed();
         says(29, "false without one.");
         x = new SplitClocks();
         no("of a new object", x.back());
